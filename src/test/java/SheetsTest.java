@@ -34,6 +34,9 @@ public final class SheetsTest {
         CHECK.due("none is not nothing", x.lose(1), 1);
         CHECK.refused(x, "a new row", x.sheet(0, 2, 60), 1);
         CHECK.due("is 0 at first", x.cell(0, 59, 2), 0);
+        x.put(0, 0, 9);
+        x.sheet(0, 2, 60);
+        CHECK.due("from the first cell on", x.cell(0, 0, 2), 0);
         x.put(0, 3, 70000);
         CHECK.fault(x, "no new row", x.sheet(0, 0, Integer.MIN_VALUE), 4);
         CHECK.due("it stays as it was", x.cell(0, 3, 2), 70000);
@@ -118,6 +121,7 @@ public final class SheetsTest {
         CHECK.fault(x, "i beyond, no cells", x.copy(0, 5, 1, 0, 0), 3);
         CHECK.fault(x, "j beyond, no cells", x.copy(0, 0, 1, 3, 0), 3);
         CHECK.fault(x, "far beyond", x.copy(0, 1, 1, 1, Integer.MAX_VALUE), 3);
+        CHECK.refused(x, "no sheet after a fault", x.copy(0, 0, 4, 0, 0), -1);
         CHECK.due("nothing has come of it", x.cell(1, 0, 1), 5);
         CHECK.refused(x, "no cells, at the ends", x.copy(0, 4, 1, 2, 0), 0);
         CHECK.refused(x, "two cells", x.copy(0, 2, 1, 0, 2), 2);

@@ -115,6 +115,8 @@ public final class WaysTest {
         x.person(10, 0);
         x.stone(10, 0);
         CHECK.due("stones don't count", x.reach(10, 0), 1);
+        SillHouse y = Check.housed("h6;s5420;s4320;s2320;s1220;s0120");
+        CHECK.due("against the doors' order", y.reach(20, 0), 0b111111);
     }
 
     private static void strangers() {
@@ -154,6 +156,8 @@ public final class WaysTest {
         CHECK.due("not by two, the second", x.laid(0, 4, 1), -9);
         x.weigh(0, 49);
         laid(x, 0, 4, 20, 20);
+        x.weigh(0, 47);
+        laid(x, 0, 1, 1);
         CHECK.due("no person", x.laid(1, 0, 0), -1);
         CHECK.due("person below", x.laid(-1, 0, 0), -1);
         CHECK.due("no room", x.laid(0, 5, 0), -1);
