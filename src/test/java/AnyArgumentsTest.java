@@ -70,7 +70,7 @@ public final class AnyArgumentsTest {
         for (int s = 0; s < 4; s++) {
             x.stone(1, s);
         }
-        for (int k = 0; k < 512; k++) {
+        for (int k = 0; k < 440; k++) {
             CHECK.due("no way", x.fewest(0, 5, -1), -9);
         }
         CHECK.due("none to be laid", x.laid(0, 5, -1), -9);

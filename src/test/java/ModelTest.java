@@ -1,13 +1,15 @@
 /** Many runs of calls, made by a counter that always counts alike, answered as the model answers them. */
 public final class ModelTest {
     private static final Check CHECK = new Check("ModelTest");
-    private static final int RUNS = 400;
-    private static final int CALLS = 300;
+    private static final int RUNS = 2000;
+    // What an object answers after its 512th call is free; one round of a run takes 130 calls at the most.
+    private static final int LAST_ROUND = 512 - 130;
 
     private final SillHouse x = new SillHouse();
     private final Model model = new Model();
     private final StringBuilder calls = new StringBuilder();
     private long seed;
+    private int used;
 
     private ModelTest(int run) {
         seed = 7919L * run + 17;
@@ -19,7 +21,7 @@ public final class ModelTest {
             new ModelTest(run).run(taken);
         }
         CHECK.due("texts enough were taken", taken[0] > RUNS ? 1 : 0, 1);
-        CHECK.due("texts enough were not", taken[1] > RUNS ? 1 : 0, 1);
+        CHECK.due("texts enough were not", taken[1] > RUNS / 4 ? 1 : 0, 1);
         CHECK.end();
     }
 
@@ -73,6 +75,7 @@ public final class ModelTest {
         }
         CHECK.due(call + " fault", x.fault(), model.fault);
         CHECK.due(call + " trace", x.trace(), model.trace);
+        used += 3;
     }
 
     private void newHouse(int ground, int[] taken) {
@@ -80,7 +83,8 @@ public final class ModelTest {
         int lane = next(3);
         compare("sheet", x.sheet(0, lane, told.length()), model.sheet(0, lane, told.length()));
         for (int i = 0; i < told.length(); i++) {
-            compare("put", x.put(0, i, told.charAt(i)), model.put(0, i, told.charAt(i)));
+            CHECK.due("put", x.put(0, i, told.charAt(i)), model.put(0, i, told.charAt(i)));
+            used++;
         }
         int doors = x.house(0, lane, 0, told.length());
         compare("house " + told, doors, model.house(0, lane, 0, told.length()));
@@ -101,10 +105,12 @@ public final class ModelTest {
 
     private void run(int[] taken) {
         int ground = 5 + next(80);
-        for (int call = 0; call < CALLS; call++) {
-            if (call % 100 == 0 || next(100) == 0) {
+        newHouse(ground, taken);
+        while (used <= LAST_ROUND) {
+            if (x.many(1) == 0 || next(40) == 0) {
                 newHouse(ground, taken);
             }
+            used++;
             switch (next(5)) {
                 case 0 -> sheets();
                 case 1 -> folk();
@@ -113,6 +119,7 @@ public final class ModelTest {
                 default -> moves();
             }
         }
+        CHECK.due("calls of a run, 512 at most", used <= 512 ? 1 : 0, 1);
     }
 
     private void moves() {
@@ -184,7 +191,7 @@ public final class ModelTest {
     private void hear(int room, int n) {
         compare("sheet", x.sheet(2, 0, n), model.sheet(2, 0, n));
         for (int i = 0; i < n; i++) {
-            int d = next(Math.max(1, x.many(1)));
+            int d = next(Math.max(1, model.many(1)));
             compare("put", x.put(2, i, d), model.put(2, i, d));
         }
         for (int m = 0; m <= n; m++) {
