@@ -224,8 +224,13 @@ final class FolkSentences {
     private void opensForASet() {
         doc.says(10, "Whether a DOOR OPENS for a PARTY, a set (1, 0).");
         SillHouse x = Check.housed("h2;s0150");
+        for (int party : new int[] {0, 1, 16, -1, Integer.MIN_VALUE, Integer.MAX_VALUE}) {
+            check.due("nobody yet opens", x.opens(party, 0), -2);
+            check.due("nobody yet passes", x.pass(party, 0), -2);
+        }
         for (int p = 0; p < 4; p++) {
             check.due("a bit of none yet", x.opens(1 << p, 0), -2);
+            check.due("a bit of none yet passes", x.pass(1 << p, 0), -2);
             x.person(p < 2 ? 25 : 50, p == 3 ? 1 : 0);
         }
         int[] due = {-2, 0, 0, 1, 1, 0, 0, 0, 1, -3, -3, -3, -3, -3, -3, -3, -2};

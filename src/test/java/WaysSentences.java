@@ -144,6 +144,14 @@ final class WaysSentences {
             back.stone(2 + s % 2, s + 1);
         }
         way(back, 0, 20, 3, 20, 13, 20, 21, 2, 21, 20, 3, 24);
+        // Stones 0 and 1 have to be brought one by one from the far end; 2 and 3 can be anywhere, and don't help.
+        SillHouse far = Check.housed("h6;s5412;s4312;s3212;s2112;s5017");
+        far.person(10, 5);
+        far.stone(3, 1);
+        far.stone(3, 1);
+        far.stone(1, 3);
+        far.stone(1, 2);
+        way(far, 0, 20, 21, 22, 23, 0, 23, 22, 21, 20, 10, 20, 21, 22, 23, 1, 23, 22, 21, 20, 0, 24);
     }
 
     private void fewestLeavesOthers() {
